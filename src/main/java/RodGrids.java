@@ -912,20 +912,19 @@ public final class RodGrids {
         }
 
         int readNumber() {
-            int start = place;
+            boolean isApart = byteHere() == SPACE;
             skipSpaces();
             int number = 0;
             int digits = 0;
-            while (place > start && digits < MOST_DIGITS && byteHere() >= '0' && byteHere() <= '9') {
+            while (isApart && digits < MOST_DIGITS && byteHere() >= '0' && byteHere() <= '9') {
                 number = 10 * number + byteHere() - '0';
                 digits++;
                 place++;
             }
             if (digits == 0) {
                 fault = place;
-                return NO_NUMBER;
             }
-            return number;
+            return digits == 0 ? NO_NUMBER : number;
         }
 
         boolean readSemicolon() {
