@@ -161,6 +161,13 @@ public final class PromiseTests {
         Check.due("removeRod(1)", x.removeRod(1), 1);
         Check.due("removeRod(0)", x.removeRod(0), 0);
         Check.noSuch(x, "removeRod(0) of none", () -> x.removeRod(0));
+        for (int rod = 0; rod < 9; rod++) {
+            x.addRod(0, 1, 100 + rod);
+        }
+        Check.due("removeRod(8) of 9", x.removeRod(8), 8);
+        x.addRod(0, 1, 108);
+        Check.due("removeRod(0) of 9", x.removeRod(0), 8);
+        Check.due("rod(7, 2)", x.rod(7, 2), 108);
     }
 
     private static void promise6() {
@@ -302,7 +309,6 @@ public final class PromiseTests {
         x.turnNut(-500);
         x.set(0, 100000);
         x.set(2, 0);
-        // The greatest free rate is 1000 * 43200 * 105 / 100 with a nut alone: the error grows by that / 24 an hour.
         for (int i = 0; i < 199; i++) {
             x.pass(500);
             x.wind();
@@ -522,7 +528,11 @@ public final class PromiseTests {
         y.addRod(1, -1, 9);
         Check.due("matchLength(1) between 7 and 8", y.matchLength(1), 7);
         y.setStretch(1, 4);
-        Check.due("matchLength(1) above 3.5", y.matchLength(1), 4);
+        Check.due("matchLength(1) above 3.75", y.matchLength(1), 4);
+        y.setStretch(1, 1);
+        Check.due("matchLength(1) of the stretch 1", y.matchLength(1), 15);
+        y.setStretch(1, 15);
+        Check.due("matchLength(1) of 1", y.matchLength(1), 1);
     }
 
     private static void promise24() {
@@ -549,6 +559,16 @@ public final class PromiseTests {
         x.setLength(0, 993995);
         // 5 too short: 217 at nut 0, -218 at nut 1.
         Check.due("bestNut() of 993995", x.bestNut(), 0);
+        // Without a loss and with 432 for each micrometer: 2160 at nut 0 and -2160 at nut 1.
+        x.set(0, 100000);
+        x.setLength(0, 99995);
+        Check.due("bestNut() of two that are alike", x.bestNut(), 0);
+        x.setLength(0, 95001);
+        Check.due("bestNut() of -432 at 500", x.bestNut(), 500);
+        x.setLength(0, 95009);
+        Check.due("bestNut() of 432 at 499", x.bestNut(), 499);
+        x.setLength(0, 104999);
+        Check.due("bestNut() of 432 at -500", x.bestNut(), -500);
     }
 
     private static void promise25() {
@@ -614,6 +634,7 @@ public final class PromiseTests {
         Check.due("rod(0, 2)", x.rod(0, 2), 6000);
         Check.due("rod(0, 0)", x.rod(0, 0), 2);
         Check.due("rod(0, 1)", x.rod(0, 1), 1);
+        Check.due("rod(1, 0)", x.rod(1, 0), 0);
         Check.due("rod(1, 1)", x.rod(1, 1), -1);
         Check.due("rod(1, 2)", x.rod(1, 2), 1000);
         Check.due("shelf(1)", x.shelf(1), 250);
@@ -637,19 +658,29 @@ public final class PromiseTests {
         String[] texts = {"", "   ", ";", "x;", "wind", "wind ", "wind;;", "windy;", "win", "wind5;", "wind 5;", " Wind;",
             "down", "down;", "down ;", "down 1;", "down 1 ;", "down 1 2", "down 1 2 3;", "down1 2;", "nut 12345678;",
             "nut 1234567", "nut -1;", "nut 1x;", "nut 1 x;", "nut#", "nu#", "nut 00000001;", "pass 1; undo;", "pass 1;wind",
-            "a1;", "pass 1;pas", "set 1  2 ;  @", "metal 1,", "\0", "nut 1;\u007f", "down 1234567 12345678;"};
+            "a1;", "pass 1;pas", "set 1  2 ;  @", "metal 1,", "\0", "nut 1;\u007f", "down 1234567 12345678;",
+            "nut ;x;", "windz;", "hangs 1;", "nut 1 ", "nut  ", " wind;  ", "nut 1\t;", "NUT 1;", "{;", "`;", "nut /;", "nut :;",
+            "nut 0" + " ".repeat(145), "wind;".repeat(29) + "nut 1"};
         int[] faults = {-1, -1, 0, 0, 4, 5, 5, 0, 0, 4, 5, 1,
             4, 4, 5, 6, 7, 8, 9, 4, 11,
             11, 4, 5, 6, 3, 0, 11, 8, 11,
-            0, 7, 12, 7, 0, 6, 20};
+            0, 7, 12, 7, 0, 6, 20,
+            4, 0, 0, 6, 5, -1, 5, 0, 0, 0, 4, 4,
+            150, 150};
         for (int i = 0; i < texts.length; i++) {
             RodGrids x = new RodGrids();
-            int want = faults[i] < 0 ? 0 : -10 - faults[i];
+            int want = faults[i] >= 0 ? -10 - faults[i] : texts[i].isBlank() ? 0 : 1;
             Check.due("runCommands() of \"" + texts[i] + "\"", Check.run(x, texts[i]), want);
             Check.due("undo() behind \"" + texts[i] + "\"", Check.outcome(() -> x.undo()),
                     faults[i] < 0 ? (Object) 0 : "throws.IllegalStateException");
             whole(x, 10, 0);
         }
+        RodGrids y = new RodGrids();
+        Check.due("runCommands() of a long text", Check.run(y, "nut 12;"), 1);
+        Check.due("runCommands() of its front", Check.run(y, "nut 1"), -15);
+        Check.due("runCommands() of its front with a space", Check.run(y, "nut "), -14);
+        Check.due("runCommands() of its word", Check.run(y, "nut"), -13);
+        Check.due("runCommands() of a front of its word", Check.run(y, "nu"), -10);
     }
 
     private static void promise29Stops() {
