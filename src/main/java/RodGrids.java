@@ -478,10 +478,6 @@ public final class RodGrids {
             return metal >= 0 && metal < metals ? stretches[metal] : 0;
         }
 
-        int stretchOfRod(int rod) {
-            return stretchOf(rodMetals[rod]);
-        }
-
         int rodValue(int rod, int what, int warmth) {
             switch (what) {
                 case 0: return rodMetals[rod];
@@ -493,7 +489,7 @@ public final class RodGrids {
         }
 
         long stretching(int rod, int warmth) {
-            long product = (long) lengths[rod] * stretchOfRod(rod) * (warmth - FIRST_WARMTH);
+            long product = (long) lengths[rod] * stretchOf(rodMetals[rod]) * (warmth - FIRST_WARMTH);
             return Math.floorDiv(product, 100000000L);
         }
 
@@ -514,7 +510,7 @@ public final class RodGrids {
         }
 
         long balanceOfRod(int rod) {
-            return (long) directions[rod] * lengths[rod] * stretchOfRod(rod);
+            return (long) directions[rod] * lengths[rod] * stretchOf(rodMetals[rod]);
         }
 
         long balanceOfRods() {
@@ -526,7 +522,7 @@ public final class RodGrids {
         }
 
         int nearestMatch(int rod) {
-            long stretch = stretchOfRod(rod);
+            long stretch = stretchOf(rodMetals[rod]);
             if (stretch == 0) {
                 return 1;
             }
