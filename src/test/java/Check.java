@@ -6,6 +6,7 @@ final class Check {
 
     private static int wrong = 0;
     private static int asked = 0;
+    private static String about = "";
 
     private Check() {
     }
@@ -14,8 +15,13 @@ final class Check {
         asked++;
         if (!want.equals(got)) {
             wrong++;
-            System.out.println(call + " answered " + got + ", due is " + want);
+            System.out.println(about + call + " answered " + got + ", due is " + want);
         }
+    }
+
+    /** What the answers that follow are about: it is told in front of each wrong one. */
+    static void about(String what) {
+        about = what;
     }
 
     static void due(String call, int got, int want) {
