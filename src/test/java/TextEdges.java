@@ -285,6 +285,11 @@ final class TextEdges {
             fault("wind;#", 5);
             fault("wind;nut #;#", 9);
             fault("nut 1;nut x;bad;", 10);
+            fault("nut ;bad;", 4);
+            fault("down 1 ;bad;", 7);
+            fault("down ;bad;", 5);
+            fault("wind 5;bad;", 5);
+            fault("nut 1;;bad;", 6);
             fault("set 1 2 ;  @", 11);
             fault("wind;".repeat(29) + "    #", 149);
             fault("\0", 0);

@@ -72,9 +72,16 @@ final class UndoEdges {
     private static void wholeState() {
         RodGrids x = Edges.bench(UndoEdges::lived);
         RodGrids due = Edges.bench(UndoEdges::lived);
-        Check.type(x, "metal 9;down 2 8;cut 0 7;cold 0 6;hang 3;nut 5;set 0 200000;set 1 4;set 2 3;pass 300;wind;pass 1;");
+        Check.type(x, "metal 9;down 2 8;cut 0 7;cold 3 6;hang 3;nut 5;set 0 200000;set 1 5;set 2 3;pass 300;wind;pass 1;");
         Check.due("runCommands()", x.runCommands(), 12);
+        int[] changed = {3, 3, 3, -6, 5, 191, 26, 1115, x.whole(8), x.whole(9), 331, 193, 138, 200000, 5, 3, 10};
+        for (int what = 0; what < changed.length; what++) {
+            Edges.whole(x, what, changed[what]);
+        }
         x.undo();
+        for (int what = 0; what < changed.length; what++) {
+            Edges.whole(x, what, due.whole(what));
+        }
         Check.due("clearCommands()", x.clearCommands() > 0, true);
         Check.type(x, "nut 5;");
         due.wind();

@@ -288,6 +288,18 @@ final class ValueEdges {
             Edges.addRods(most, 9, direction, 1000000);
             Check.due("balanceBits() of the most", most.balanceBits(), Float.floatToIntBits((float) (direction * 4500000000L) / 9000000f));
         }
+        for (int power = 1; power <= 256; power *= 2) {
+            RodGrids whole = new RodGrids();
+            whole.setStretch(0, power);
+            whole.addRod(0, 1, 7);
+            Check.due("balanceBits() of " + power, whole.balanceBits(), Float.floatToIntBits(power));
+            RodGrids part = new RodGrids();
+            part.setStretch(0, 1);
+            part.setStretch(1, 0);
+            part.addRod(0, -1, 1);
+            part.addRod(1, 1, 2 * power - 1);
+            Check.due("balanceBits() of -1 / " + 2 * power, part.balanceBits(), Float.floatToIntBits(-0.5f / power));
+        }
         // 257 * 65281 is 16777217, which no float is: the balance is rounded before it is divided.
         RodGrids x = new RodGrids();
         x.setStretch(0, 257);

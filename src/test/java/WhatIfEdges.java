@@ -109,6 +109,8 @@ final class WhatIfEdges {
         Check.due("others far beyond the ints", x.matchLength(8), 1000000);
         x.setStretch(1, 500);
         Check.due("others far beyond the ints, of the stretch 500", x.matchLength(8), 1000000);
+        x.setStretch(1, 1);
+        Check.due("others far beyond the ints, of the stretch 1", x.matchLength(8), 1000000);
         Check.due("one of the others", x.matchLength(0), 1);
     }
 
